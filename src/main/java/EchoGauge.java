@@ -547,7 +547,7 @@ public final class EchoGauge {
                 echoes.mark(picked, Echoes.PICKED);
                 earlier.copyFrom(latest);
                 latest.takeCandidates(echoes);
-                history.record(echoes.distance(picked), settings, tank.depth);
+                history.enter(echoes.distance(picked), settings, tank.depth);
             }
         }
 
@@ -1158,7 +1158,7 @@ public final class EchoGauge {
             return told != NONE ? depth - told : NONE;
         }
 
-        void record(int pick, Settings settings, int depth) {
+        void enter(int pick, Settings settings, int depth) {
             shots++;
             if (pick != NONE) {
                 pickedShots++;

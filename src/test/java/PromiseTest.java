@@ -450,9 +450,9 @@ public final class PromiseTest {
         CHECK.due("moved", g.echo(1, DISTANCE), 3000 + 17515 % 21 - 10);
         g.setS(1);
         g.set(1, 1);
-        g.shoot(1);
-        CHECK.due("moved", g.echo(0, DISTANCE), 1500 + 5758 % 3 - 1);
-        CHECK.due("moved", g.echo(1, DISTANCE), 3000 + 17515 % 3 - 1);
+        g.shoot(2);
+        CHECK.due("moved", g.echo(0, DISTANCE), 1500 + 5627 % 3 - 1);
+        CHECK.due("moved", g.echo(1, DISTANCE), 3000 + 7419 % 3 - 1);
         g.set(1, 10);
         g.setS(1);
         g.setLevel(2000);
@@ -502,6 +502,23 @@ public final class PromiseTest {
             CHECK.due("drops", g.gauge(11), 2 * inside);
         }
         guardCountsShotsOfShootAlone();
+        guardTakesNoShotsForNoCandidates();
+    }
+
+    private static void guardTakesNoShotsForNoCandidates() {
+        EchoGauge g = new EchoGauge();
+        g.set(4, 1);
+        g.setStirrer(0, 0, 100, 0, 0);
+        g.addThing(5, 50);
+        g.shoot(1);
+        CHECK.due("first", g.echo(0, DROPPED), 1);
+        g.removeThing(0);
+        g.shoot(2);
+        g.addThing(5, 50);
+        for (int shot = 1; shot <= 3; shot++) {
+            g.shoot(1);
+            CHECK.due("shot " + shot + " behind a gap", g.echo(0, DROPPED), shot < 3 ? 1 : 0);
+        }
     }
 
     private static void guardCountsShotsOfShootAlone() {
@@ -968,6 +985,12 @@ public final class PromiseTest {
         CHECK.due("median of 1400, 1900", g.gauge(10), 1400);
         g.shoot(1);
         CHECK.due("median of one of four", g.gauge(10), -1);
+        g.set(0, 0);
+        for (int level = 597; level <= 600; level++) {
+            g.setLevel(level);
+            g.shoot(1);
+        }
+        CHECK.due("median of 1400 to 1403", g.gauge(10), 1401);
     }
 
     private static void meanPick() {

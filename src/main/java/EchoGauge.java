@@ -706,7 +706,7 @@ public final class EchoGauge {
         }
 
         boolean hasThing(int thing) {
-            return thing >= 0 && thing < things;
+            return thing >= 0 && thing < things && thing < MOST_THINGS;
         }
 
         void putThing(int distance, int strength) {
@@ -721,7 +721,7 @@ public final class EchoGauge {
             if (!hasThing(thing)) {
                 return;
             }
-            for (int i = thing; i + 1 < things; i++) {
+            for (int i = thing; i + 1 < things && i + 1 < MOST_THINGS; i++) {
                 distances[i] = distances[i + 1];
                 strengths[i] = strengths[i + 1];
             }

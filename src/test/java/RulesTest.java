@@ -25,7 +25,33 @@ public final class RulesTest {
         check.due("public members", count(code, "\n    public "), 33);
         check.due("things made in methods", count(code, "^            .*\\bnew (?!\\w+Exception\\()"), 1);
         check.due("classes, of at most twelve", count(code, "\\b(class|enum|interface|record) \\w+ \\{") <= 12, true);
+        int longest = longestMethod(code);
+        check.due("longest method, of at most sixty lines", longest > 0 && longest <= 60, true);
+        check.due("methods of more than seven parameters",
+            count(code, "^ {4,8}[^;=\\n]*\\w\\((?:[^,()]*,){7,}[^,()]*\\)[^;]*\\{"), 0);
+        check.due("other methods with the name of a public one", sameNames(code), 0);
         check.end();
+    }
+
+    /** Lines between a method's first and last brace, told by their indents of four and eight. */
+    private static int longestMethod(String code) {
+        Matcher methods = Pattern.compile("^( {4}| {8})\\S[^;=\\n]*\\([^;\\n]*\\{\\n(.*?)\\n\\1}",
+            Pattern.MULTILINE | Pattern.DOTALL).matcher(code);
+        int longest = 0;
+        while (methods.find()) {
+            longest = Math.max(longest, (int) methods.group(2).lines().count());
+        }
+        return longest;
+    }
+
+    private static int sameNames(String code) {
+        Matcher open = Pattern.compile("\n    public \\w+ (\\w+)\\(").matcher(code);
+        int found = 0;
+        while (open.find()) {
+            String declared = "^ +(?!public |return |new )(?:private |static |final )*\\w+ " + open.group(1) + "\\(";
+            found += count(code, declared);
+        }
+        return found;
     }
 
     private static int count(String code, String pattern) {

@@ -205,6 +205,9 @@ public final class TankEdgeTest {
         g.shoot(1);
         g.learn(50);
         E.due("begin behind 501 shots and 50 of learn()", g.begin(2000), 501);
+        g.set(0, 100);
+        g.shoot(3);
+        E.due("begin behind 3 shots without a pick", g.begin(2000), 3);
     }
 
     // ---- promise 3

@@ -527,6 +527,15 @@ public final class TextEdgeTest {
         for (int what = 0; what < 12; what++) {
             commandRange("set " + what + " ", ";", least[what], most[what]);
         }
+        for (int limit : new int[] {299, 300, 301}) {
+            EchoGauge g = new EchoGauge();
+            g.set(10, 300);
+            E.due("low limit " + limit + " and high limit 300", Edges.run(g, "set 9 " + limit + ";"),
+                limit > 300 ? 0 : 1);
+            EchoGauge told = new EchoGauge();
+            E.due("high limit " + limit + " behind low limit 300", Edges.run(told, "set 9 300;set 10 " + limit + ";"),
+                limit < 300 ? 1 : 2);
+        }
         runs("set 11 1;", 1);
         runs("set 12 1;", 0);
         runs("set 99999 1;", 0);

@@ -119,20 +119,30 @@ public final class UndoEdgeTest {
         g -> g.set(6, 2), g -> g.setS(9), g -> g.mask(1000, true), g -> g.learn(3), EchoGauge::forget,
         g -> g.shoot(12), EchoGauge::runCommands};
 
+    private static final int ADD_THING = 4;
+
     private static void everyUndoableCallSavesOne() {
         E.sentence("Every method that is marked \"undoable\" saves the whole state but the command text on an "
             + "undo stack when it ends normally, also if it changes nothing. The saved state is the one from "
             + "before the call.");
         for (int i = 0; i < CALLS.length; i++) {
             EchoGauge g = withOneState();
-            List<Long> before = Edges.values(g);
             CALLS[i].on(g);
-            E.due(NAMES[i] + " changes something", Edges.values(g).equals(before), false);
             E.due("states behind " + NAMES[i], g.undo(), 1);
-            E.due("values behind " + NAMES[i], Edges.values(g).equals(before), true);
             E.due("states", g.undo(), 0);
             E.due("states", Edges.undo(g), Edges.NOTHING_TO_UNDO);
+            comesBack(NAMES[i] + " of a busy one", Edges.busy(), CALLS[i]);
+            if (i != ADD_THING) {
+                comesBack(NAMES[i] + " of a full one", Edges.full(), CALLS[i]);
+            }
         }
+    }
+
+    private static void comesBack(String name, EchoGauge g, Edges.Call call) {
+        List<Long> before = Edges.values(g);
+        call.on(g);
+        E.due("states behind " + name, g.undo(), 3);
+        E.due("values behind " + name, Edges.values(g).equals(before), true);
     }
 
     /** A busy one whose stack holds one state. */
@@ -349,6 +359,8 @@ public final class UndoEdgeTest {
         g.undo();
         E.due("told behind undo", g.gauge(2), 1500);
         E.due("misses behind undo", g.gauge(4), 9);
+        E.due("shots behind undo", g.gauge(0), 10);
+        E.due("shots that had a pick behind undo", g.gauge(1), 1);
         g.undo();
         E.due("misses behind two", g.gauge(4), 0);
         E.due("pick behind two", g.pick(0), 1500);

@@ -370,6 +370,16 @@ public final class ValueEdgeTest {
         Edges.shootAt(g, 0);
         E.due("distance H", g.gauge(2), 2000);
         E.due("level 0", g.gauge(3), 0);
+        for (int depth : new int[] {500, 501, 9999, 10000}) {
+            for (int level : new int[] {0, 1, depth - 1, depth}) {
+                EchoGauge deep = new EchoGauge();
+                deep.begin(depth);
+                deep.set(6, 1);
+                Edges.shootAt(deep, level);
+                E.due("distance in " + depth, deep.gauge(2), depth - level);
+                E.due("level in " + depth, deep.gauge(3), level);
+            }
+        }
     }
 
     private static void gaugeCountsShots() {
